@@ -373,7 +373,7 @@ public final class ServoDesk {
             long size = sized(number);
             int scale = scale(size);
             if (scale + fraction >= LAST_BIT) {
-                return number < 0 ? Long.MIN_VALUE : Long.MAX_VALUE;
+                return number < 0 ? LONG.least() : LONG.greatest();
             }
             long significand = significand(size);
             long part = scale >= 0 ? significand << scale : significand >>> Math.min(LAST_BIT, -scale);

@@ -30,9 +30,7 @@ public final class FaceTest {
         }
         for (Method method : ServoDesk.class.getDeclaredMethods()) {
             addSeen(seen, method, method.toString());
-            boolean face = FACE.contains(method.toString());
-            boolean named = FACE.stream().anyMatch(line -> line.contains("." + method.getName() + "("));
-            due.yes("no other method named " + method.getName(), face || !named);
+            due.yes("no other method is named as " + method, FACE.contains(method.toString()) || !bearsFaceName(method));
         }
         due.yes("the members " + seen, seen.equals(FACE));
         due.same("public final", ServoDesk.class.getModifiers(), Modifier.PUBLIC | Modifier.FINAL);
@@ -42,9 +40,16 @@ public final class FaceTest {
             int modifiers = inside.getModifiers();
             due.yes(inside + " is static and not seen",
                 Modifier.isStatic(modifiers) && !Modifier.isPublic(modifiers) && !Modifier.isProtected(modifiers));
+            for (Method method : inside.getDeclaredMethods()) {
+                due.no("a method of the face is named as " + method, bearsFaceName(method));
+            }
         }
         due.same("NONE", ServoDesk.NONE, -1);
         due.end();
+    }
+
+    private static boolean bearsFaceName(Method method) {
+        return FACE.stream().anyMatch(line -> line.contains("." + method.getName() + "("));
     }
 
     private static void addSeen(Set<String> seen, Member member, String text) {

@@ -27,12 +27,12 @@ public final class RunsModelTest {
         int first = draw(4);
         for (int call = 0; call < CALLS - 1; call++) {
             String name = "run " + run + ", call " + call + ": ";
-            int axis = draw(40) == 0 ? draw(20) - 6 : draw(4);
-            int other = draw(40) == 0 ? draw(20) - 6 : draw(4);
-            int what = draw(40) == 0 ? draw(12) - 4 : draw(5);
+            int axis = someNumber(4);
+            int other = someNumber(4);
+            int what = someNumber(5);
             switch (call < 4 ? 0 : draw(100) == 0 ? 0 : 1 + draw(6)) {
                 case 0: {
-                    int kind = call < 4 ? (first + call * (1 + run % 2)) % 4 : draw(8) - 2;
+                    int kind = call < 4 ? (first + call * (1 + run % 2)) % 4 : someNumber(4);
                     due.same(name + "axis " + kind, desk.axis(kind), model.axis(kind));
                     break;
                 }
@@ -61,6 +61,16 @@ public final class RunsModelTest {
         }
     }
 
+    /** Mostly one of the first few numbers, now and then one around them, seldom any int at all. */
+    private static int someNumber(int few) {
+        switch (draw(80)) {
+            case 0: case 1: return draw(20) - 6;
+            case 2: return (int) Edges.mixed(++drawn);
+            case 3: return draw(2) == 0 ? Integer.MIN_VALUE : Integer.MAX_VALUE;
+            default: return draw(few);
+        }
+    }
+
     private static long someBits() {
         switch (draw(8)) {
             case 0: return Edges.mixed(++drawn);
@@ -73,6 +83,9 @@ public final class RunsModelTest {
     }
 
     private static int someRow() {
+        if (draw(20) == 0) {
+            return (int) Edges.mixed(++drawn);
+        }
         int row = 0;
         int length = draw(9);
         for (int at = 0; at < length; at++) {

@@ -24,14 +24,15 @@ final class Script {
         this.sentence = sentence;
     }
 
-    /** One desk, the calls of all lines in their order. */
-    static void run(Due due, String sentence, String text) {
+    /** One desk, the calls of all lines in their order: how many there were. */
+    static int run(Due due, String sentence, String text) {
         Script script = new Script(due, sentence);
         for (String call : text.split("[;\n]")) {
             if (!call.isBlank()) {
                 script.call(call.trim());
             }
         }
+        return script.calls;
     }
 
     /** The same calls for each of these kinds, a new desk each. */
